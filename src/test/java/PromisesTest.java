@@ -17,6 +17,7 @@ public final class PromisesTest {
         guardRoom();
         clearing();
         runEndsAndLimits();
+        mostItemsInAShift();
         runBeginsAnew();
         jumps();
         guardsTakeFailures();
@@ -233,11 +234,20 @@ public final class PromisesTest {
             due("any x", 2, failing.run(x, 0));
             due("x is given", x, failing.register(0));
         }
-        BaggageHall many = planned(MAKE, 0, 3, 0, GO, 0, 0, 0);
-        due("items all the time", 2, many.run(4, 63));
-        due("the newest item", 4, many.item(0, 1));
-        due("and again", 2, many.run(5, 64));
-        due("the newest item again", 5, many.item(0, 1));
+    }
+
+    private static void mostItemsInAShift() {
+        BaggageHall hall = new BaggageHall();
+        for (int i = 0; i < 39; i++) {
+            hall.act(MAKE, i % 8, i % 5, 0);
+        }
+        hall.act(GO, 0, 0, 0);
+        for (int x = 1; x < 9; x++) {
+            due("items all the time", 2, hall.run(x, 64));
+            due("the newest item's kind", 23 % 5, hall.item(23 % 8, 0));
+            due("the newest item's weight", x, hall.item(23 % 8, 1));
+            due("the newest item's place", 23 % 8, hall.item(23 % 8, 3));
+        }
     }
 
     private static void runBeginsAnew() {
