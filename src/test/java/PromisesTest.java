@@ -1,14 +1,5 @@
 /** For each promise of the document: ordinary calls, its edges and wrong numbers, with answers worked out by hand. */
-public final class PromisesTest {
-    private static final int NONE = -1, OUTSIDE = -101, ROOM = -102;
-    private static final int MIN = Integer.MIN_VALUE, MAX = Integer.MAX_VALUE;
-
-    private static final int MAKE = 0, LOSE = 1, SAME = 2, BELT = 3, LAY = 4, PICK = 5, LONG = 6, DROP = 7, WEIGH = 8,
-            LOAD = 9, STAMP = 10, FEED = 11, AS = 12, COUNTER = 13, COUNT = 14, HOW = 15, GRID = 16, SUM = 17,
-            ALARM = 18, HUSH = 19, RAISE = 20, SET = 21, ADD = 22, GO = 23, IF = 24;
-
-    private static final Checks CHECKS = new Checks();
-
+public final class PromisesTest extends HallChecks {
     public static void main(String[] args) {
         newObject();
         actNumbers();
@@ -41,30 +32,6 @@ public final class PromisesTest {
         countedAnswers();
         refusalsChangeNothing();
         CHECKS.end();
-    }
-
-    private static void due(String what, int want, int got) {
-        CHECKS.due(what, want, got);
-    }
-
-    /** A hall with acts of four numbers each. */
-    private static BaggageHall planned(int... numbers) {
-        BaggageHall hall = new BaggageHall();
-        for (int i = 0; i + 3 < numbers.length; i += 4) {
-            due("planned act " + i / 4, i / 4, hall.act(numbers[i], numbers[i + 1], numbers[i + 2], numbers[i + 3]));
-        }
-        return hall;
-    }
-
-    private static void dueEnd(String what, BaggageHall hall, int x) {
-        due(what + " ends", 0, hall.run(x, 64));
-        due(what + " ends without a failure", 0, hall.told(0));
-    }
-
-    private static void dueFailure(String what, BaggageHall hall, int x, int failure, int line) {
-        due(what + " fails", 1, hall.run(x, 64));
-        due(what + " failure", failure, hall.told(0));
-        due(what + " line", line, hall.told(1));
     }
 
     private static void dueEmpty(String what, BaggageHall hall) {
@@ -364,8 +331,6 @@ public final class PromisesTest {
         due("dog's weight", 40, dog.item(2, 1));
         due("dog's stamps", 2, dog.item(2, 2));
     }
-
-    private static final String[] TAKEN = {"11111", "01110", "00110", "00010", "00001"};
 
     private static void kinds() {
         for (int wanted = 0; wanted < 5; wanted++) {
