@@ -15,6 +15,7 @@ public final class TermBoundariesTest extends HallChecks {
         weightsWrap();
         stampsWrapWithTheWeight();
         stampsBeginAt0AndGoUpByOne();
+        weightsAreAnyNumber();
         sizesFrom0To8();
         aSizeBelow0IsSize();
         aSizeAbove8IsLarge();
@@ -231,6 +232,21 @@ public final class TermBoundariesTest extends HallChecks {
         due("told by the last one", 62, hall.register(1));
         due("and once more", 2, hall.run(0, 2));
         due("a new item has none of them", 1, hall.item(0, 2));
+    }
+
+    private static void weightsAreAnyNumber() {
+        for (int weight : new int[] {MIN, OUTSIDE, -1, 0, 1, MAX}) {
+            BaggageHall made = planned(MAKE, 7, BAG, 0, WEIGH, 5, 7, 0);
+            dueEnd("made with " + weight, made, weight);
+            due("weighed " + weight, weight, made.register(5));
+            BaggageHall loaded = planned(SET, 1, 6, 0, MAKE, 7, BAG, 1, STAMP, 2, 7, 0, SAME, 0, 7, 0, LOAD, 7, 0, 0,
+                    WEIGH, 5, 0, 0);
+            dueEnd("loaded with " + weight, loaded, weight);
+            due("weighed at its other place " + weight, weight, loaded.register(5));
+            due("weight at 7", weight, loaded.item(7, 1));
+            due("stamps stay", 1, loaded.item(7, 2));
+            due("it is still one item", 0, loaded.item(7, 3));
+        }
     }
 
     /** A belt, counter or grid 1 with as many places as a register tells. */
