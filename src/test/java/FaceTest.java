@@ -19,6 +19,8 @@ public final class FaceTest {
     public static void main(String[] args) throws IOException {
         constants();
         methods();
+        nothingInheritedButFromObject();
+        classesInside();
         noExceptionsInSource();
         CHECKS.end();
     }
@@ -59,6 +61,36 @@ public final class FaceTest {
             }
         }
         holds("the methods " + open, open.equals(METHODS));
+    }
+
+    private static void nothingInheritedButFromObject() {
+        holds("no class above it", BaggageHall.class.getSuperclass() == Object.class);
+        holds("no interface above it", BaggageHall.class.getInterfaces().length == 0);
+    }
+
+    private static void classesInside() {
+        for (Class<?> inside : BaggageHall.class.getDeclaredClasses()) {
+            holds(inside + " is static and not open", Modifier.isStatic(inside.getModifiers())
+                    && !Modifier.isPublic(inside.getModifiers()) && !Modifier.isProtected(inside.getModifiers()));
+            staticFieldsAreFinal(inside);
+        }
+        staticFieldsAreFinal(BaggageHall.class);
+        Set<String> hidden = new TreeSet<>();
+        for (Method method : BaggageHall.class.getDeclaredMethods()) {
+            if (Modifier.isPrivate(method.getModifiers())) {
+                hidden.add(method.getName());
+            }
+        }
+        for (String open : METHODS) {
+            holds("no private method named as " + open, !hidden.contains(open.substring(0, open.length() - 1)));
+        }
+    }
+
+    private static void staticFieldsAreFinal(Class<?> owner) {
+        for (Field field : owner.getDeclaredFields()) {
+            holds(field + " is final if it is static",
+                    !Modifier.isStatic(field.getModifiers()) || Modifier.isFinal(field.getModifiers()));
+        }
     }
 
     private static void noExceptionsInSource() throws IOException {
